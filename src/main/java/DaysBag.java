@@ -19,6 +19,12 @@ public final class DaysBag {
     /** The stages of all works are one number of three digits to the base 3. */
     private static final int[] STEP = {1, 3, 9};
     private static final int STAGES = 27, ALL_WORKS = 7;
+    /** For each number of stages: a bit for each work that is not done, at twice the work and its stage. */
+    private static final int[] UNDONE = {
+        21, 22, 20, 25, 26, 24, 17, 18, 16,
+        37, 38, 36, 41, 42, 40, 33, 34, 32,
+        5, 6, 4, 9, 10, 8, 1, 2, 0
+    };
     private static final int COUNTS = MOST_DAYS + 1, STATES = COUNTS * COUNTS * COUNTS * STAGES;
 
     /** Pascal's triangle, row by row. */
@@ -312,7 +318,7 @@ public final class DaysBag {
         ahead.look(now, NONE, NONE);
         long sum = ahead.bestSum(now.stages);
         ahead.take(sort);
-        long then = ahead.worth(ahead.bestWork(sort, now.stages), now.stages);
+        long then = ahead.bestOn(sort, now.stages);
         long orders = ordersOf(now.bag);
         long behind = ahead.ways();
         return lowest(sum * behind - then * orders, orders * behind, part);
@@ -490,6 +496,14 @@ public final class DaysBag {
         return rest;
     }
 
+    private static boolean hasBit(int bits, int place) {
+        return (bits >> place & 1) == 1;
+    }
+
+    private static boolean isIn(int cans, int work) {
+        return (cans >> work * DONE & 3) != 0;
+    }
+
     private static int stageOf(int stages, int work) {
         return stages / STEP[work] % 3;
     }
@@ -652,7 +666,7 @@ public final class DaysBag {
             if (work < 0 || work >= WORKS) {
                 return 0;
             }
-            return stageOf(stages, work) == DONE - 1 ? pay[work] : 0;
+            return hasBit(UNDONE[stages], work * DONE + 1) ? pay[work] : 0;
         }
 
         /** Day: s, g, l, r, d in this order; a bit for each work and each g in which it is not done. */
@@ -663,7 +677,7 @@ public final class DaysBag {
                 for (int stage = 0; stage < DONE; stage++) {
                     day[1] = stage;
                     if (holds(from, ends[i], day)) {
-                        bits |= 1 << works[i] * DONE + stage;
+                        bits |= 1 << (works[i] * DONE + stage);
                     }
                 }
                 from = ends[i];
@@ -680,21 +694,22 @@ public final class DaysBag {
                 if (op == NOT) {
                     stack ^= 1;
                 } else if (op == AND) {
-                    stack = stack >> 1 & top - 2;
+                    stack = (stack >> 1) & (top - 2);
                 } else if (op == OR) {
-                    stack = stack >> 1 | top;
+                    stack = (stack >> 1) | top;
                 } else {
                     int is = day[op / 300];
                     int n = op % 100;
                     int relation = is < n ? 0 : is == n ? 1 : 2;
-                    stack = stack << 1 | (relation == op / 100 % 3 ? 1 : 0);
+                    stack = (stack << 1) | (relation == op / 100 % 3 ? 1 : 0);
                 }
             }
             return (stack & 1) == 1;
         }
 
-        static int test(int sign, int relation, int number) {
-            return (sign * 3 + relation) * 100 + number;
+        /** A TEST as one number, as holds() takes it apart. */
+        static int test(int sign, int relation, int n) {
+            return (sign * 3 + relation) * 100 + n;
         }
     }
 
@@ -967,7 +982,7 @@ public final class DaysBag {
             return ((left[0] * COUNTS + left[1]) * COUNTS + left[2]) * STAGES + stages;
         }
 
-        /** The works that can be done on a day of a sort that was taken, as bits. */
+        /** The works that can be done on a day of a sort that was taken, as bits like UNDONE's. */
         int cans(int sort, int stages) {
             if (sort == barred && left[sort] == barredAt) {
                 return 0;
@@ -976,14 +991,7 @@ public final class DaysBag {
             if (opened[at] == UNKNOWN) {
                 opened[at] = openedOn(sort);
             }
-            int bits = 0;
-            for (int work = 0; work < WORKS; work++) {
-                int stage = stageOf(stages, work);
-                if (stage < DONE && (opened[at] >> (work * DONE + stage) & 1) == 1) {
-                    bits |= 1 << work;
-                }
-            }
-            return bits;
+            return opened[at] & UNDONE[stages];
         }
 
         private int openedOn(int sort) {
@@ -995,7 +1003,7 @@ public final class DaysBag {
         }
 
         /** Over all orders of what is left together, so that it is exact: what a BEST one is paid. */
-        int bestSum(int stages) {
+        private int bestSum(int stages) {
             if (rest <= 0) {
                 return 0;
             }
@@ -1005,9 +1013,9 @@ public final class DaysBag {
             }
             int sum = 0;
             for (int sort = 0; sort < SORTS; sort++) {
-                if (has(sort)) {
+                if (left[sort] > 0) {
                     take(sort);
-                    sum += worth(bestWork(sort, stages), stages);
+                    sum += bestOn(sort, stages);
                     back(sort);
                 }
             }
@@ -1015,25 +1023,33 @@ public final class DaysBag {
             return sum;
         }
 
-        int bestWork(int sort, int stages) {
+        /** Over all orders behind the day that was taken: what a BEST one is paid on it and on these. */
+        private int bestOn(int sort, int stages) {
             int bits = cans(sort, stages);
-            if (bits == 0) {
-                return IDLE;
-            }
-            int pick = IDLE;
-            int most = worth(IDLE, stages);
+            int most = bestSum(stages);
             for (int work = 0; work < WORKS; work++) {
-                int sum = (bits >> work & 1) == 1 ? worth(work, stages) : -1;
-                if (sum > most) {
-                    pick = work;
-                    most = sum;
+                if (isIn(bits, work)) {
+                    most = Math.max(most, worth(work, stages));
                 }
             }
-            return pick;
+            return most;
         }
 
-        /** Over all orders behind the day that was taken: what a BEST one is paid on it and on these. */
-        int worth(int work, int stages) {
+        private int bestWork(int sort, int stages) {
+            int bits = cans(sort, stages);
+            int most = bestOn(sort, stages);
+            if (bits == 0 || bestSum(stages) == most) {
+                return IDLE;
+            }
+            for (int work = 0; work < WORKS; work++) {
+                if (isIn(bits, work) && worth(work, stages) == most) {
+                    return work;
+                }
+            }
+            return IDLE;
+        }
+
+        private int worth(int work, int stages) {
             return paidOn(work, stages) + bestSum(after(work, stages));
         }
 
@@ -1048,7 +1064,7 @@ public final class DaysBag {
         }
 
         /** How many orders end with these works done; without works: what is paid over all orders. */
-        int ownSum(Worker one, int works, int stages) {
+        private int ownSum(Worker one, int works, int stages) {
             if (rest <= 0) {
                 return works != 0 && reached(works, stages) ? 1 : 0;
             }
@@ -1058,7 +1074,7 @@ public final class DaysBag {
             }
             int sum = 0;
             for (int sort = 0; sort < SORTS; sort++) {
-                if (has(sort)) {
+                if (left[sort] > 0) {
                     take(sort);
                     int work = one.does(this, sort, stages);
                     int paid = works == 0 ? paidOn(work, stages) : 0;
@@ -1072,14 +1088,14 @@ public final class DaysBag {
 
         private static boolean reached(int works, int stages) {
             for (int work = 0; work < WORKS; work++) {
-                if ((works >> work & 1) == 1 && stageOf(stages, work) < DONE) {
+                if (hasBit(works, work) && isIn(UNDONE[stages], work)) {
                     return false;
                 }
             }
             return true;
         }
 
-        int mostPaid(int stages) {
+        private int mostPaid(int stages) {
             if (rest <= 0) {
                 return 0;
             }
@@ -1089,7 +1105,7 @@ public final class DaysBag {
             }
             int top = 0;
             for (int sort = 0; sort < SORTS; sort++) {
-                if (has(sort)) {
+                if (left[sort] > 0) {
                     take(sort);
                     top = Math.max(top, mostOn(sort, stages));
                     back(sort);
@@ -1103,7 +1119,7 @@ public final class DaysBag {
             int bits = cans(sort, stages);
             int top = mostPaid(stages);
             for (int work = 0; work < WORKS; work++) {
-                if ((bits >> work & 1) == 1) {
+                if (isIn(bits, work)) {
                     top = Math.max(top, valley.gain(work, stages) + mostPaid(after(work, stages)));
                 }
             }
@@ -1150,9 +1166,9 @@ public final class DaysBag {
             }
         }
 
-        static int least(int works) {
+        static int least(int cans) {
             for (int work = 0; work < WORKS; work++) {
-                if ((works >> work & 1) == 1) {
+                if (isIn(cans, work)) {
                     return work;
                 }
             }
@@ -1184,8 +1200,7 @@ public final class DaysBag {
             int bits = ahead.cans(sort, stages);
             int pick = IDLE;
             for (int work = 0; work < WORKS; work++) {
-                boolean can = (bits >> work & 1) == 1;
-                if (can && (pick == IDLE || ahead.payOf(work) > ahead.payOf(pick))) {
+                if (isIn(bits, work) && (pick == IDLE || ahead.payOf(work) > ahead.payOf(pick))) {
                     pick = work;
                 }
             }
@@ -1221,7 +1236,7 @@ public final class DaysBag {
         int does(Ahead ahead, int sort, int stages) {
             int bits = ahead.cans(sort, stages);
             for (int work = 0; work < WORKS; work++) {
-                if ((bits >> work & 1) == 1 && stageOf(stages, work) == DONE - 1) {
+                if (hasBit(bits, work * DONE + 1)) {
                     return work;
                 }
             }
@@ -1270,7 +1285,7 @@ public final class DaysBag {
 
         int does(Ahead ahead, int sort, int stages) {
             int work = toldFor(sort);
-            if ((ahead.cans(sort, stages) >> work & 1) == 1) {
+            if (isIn(ahead.cans(sort, stages), work)) {
                 return work;
             }
             return super.does(ahead, sort, stages);
