@@ -923,10 +923,13 @@ public final class DaysBag {
         private static final int UNKNOWN = -1;
         private final int[] left = new int[SORTS];
         int rest;
+        /** The days that were drawn and the rest: no draw changes it, so what was worked out outlasts draws. */
         private int total = -1;
         private Valley valley;
         private int barred = NONE;
+        /** How many days of the barred sort are left on its first day: fewer on any other one. */
         private int barredAt;
+        /** By the rest, the sort and its days that are left: when which works open. */
         private final int[] opened = new int[MOST_REST * SORTS * COUNTS];
         private final int[] day = new int[5];
         private final int[] best = new int[STATES];
@@ -989,17 +992,13 @@ public final class DaysBag {
             }
             int at = (rest * SORTS + sort) * COUNTS + left[sort];
             if (opened[at] == UNKNOWN) {
-                opened[at] = openedOn(sort);
+                day[0] = sort;
+                day[2] = rest;
+                day[3] = left[sort];
+                day[4] = total - 1 - rest;
+                opened[at] = valley.opened(day);
             }
             return opened[at] & UNDONE[stages];
-        }
-
-        private int openedOn(int sort) {
-            day[0] = sort;
-            day[2] = rest;
-            day[3] = left[sort];
-            day[4] = total - 1 - rest;
-            return valley.opened(day);
         }
 
         /** Over all orders of what is left together, so that it is exact: what a BEST one is paid. */
