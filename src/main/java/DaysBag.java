@@ -852,7 +852,7 @@ public final class DaysBag {
             if (!both(open)) {
                 return false;
             }
-            while (at < size && eats('|')) {
+            for (int i = 0; i < MOST_SIGNS && eats('|'); i++) {
                 if (!both(open)) {
                     return false;
                 }
@@ -865,7 +865,7 @@ public final class DaysBag {
             if (!factor(open)) {
                 return false;
             }
-            while (at < size && eats('&')) {
+            for (int i = 0; i < MOST_SIGNS && eats('&'); i++) {
                 if (!factor(open)) {
                     return false;
                 }

@@ -10,7 +10,8 @@ import java.util.regex.Pattern;
 
 /** Chance runs of calls on DaysBag and on a slow model that is read off the document another way. */
 public final class ModelTest {
-    private static final int RUNS = 80, CALLS = 500;
+    /** A step may feed a whole tape: with it a run stays within the 512 calls of which answers are promised. */
+    private static final int RUNS = 90, CALLS = 410;
     private static int wrong = 0;
 
     public static void main(String[] args) {

@@ -33,7 +33,7 @@ public final class RoomTest {
             calls += 2;
         }
         x.image();
-        for (int i = 0; i < 40; i++) {
+        for (int i = 0; i < 28; i++) {
             x.undo();
             x.valley();
             x.bag(i % 3, 4 + i % 2);
