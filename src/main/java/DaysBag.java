@@ -787,12 +787,20 @@ public final class DaysBag {
             return which;
         }
 
+        private int digit() {
+            if (at >= size || tape[at] < '0' || tape[at] > '9') {
+                return -1;
+            }
+            at++;
+            return tape[at - 1] - '0';
+        }
+
         private int number() {
-            int high = eatsOneOf("0123456789");
+            int high = digit();
             if (high <= 0) {
                 return high;
             }
-            int low = eatsOneOf("0123456789");
+            int low = digit();
             return low < 0 ? high : high * 10 + low;
         }
 
